@@ -5,6 +5,9 @@ import java.math.BigInteger;
 final class Due {
     private static int asked = 0;
     private static int wrong = 0;
+    private static int sentences = 0;
+    private static int askedBefore = 0;
+    private static String sentence = "";
     private static long seed = 20261115L;
 
     private Due() {
@@ -15,8 +18,24 @@ final class Due {
         if (got != want) {
             wrong++;
             String shown = call.length() > 200 ? call.substring(0, 200) + ".. (" + call.length() + ")" : call;
-            System.out.println(shown + " answered " + got + ", due is " + want);
+            System.out.println(sentence + shown + " answered " + got + ", due is " + want);
         }
+    }
+
+    /** What is asked from here on tests these words of the document. */
+    static void sentence(String words) {
+        endSentence();
+        sentences++;
+        sentence = "[" + words + "] ";
+    }
+
+    /** A sentence that nothing was asked for has no test. */
+    private static void endSentence() {
+        if (sentences > 0 && asked == askedBefore) {
+            wrong++;
+            System.out.println(sentence + "has no test");
+        }
+        askedBefore = asked;
     }
 
     static void due(String call, boolean got, boolean want) {
@@ -25,7 +44,9 @@ final class Due {
 
     /** Prints the count and ends the test. */
     static void end() {
-        System.out.println(asked + " answers, " + wrong + " not as due");
+        endSentence();
+        String of = sentences == 0 ? "" : " for " + sentences + " sentences";
+        System.out.println(asked + " answers" + of + ", " + wrong + " not as due");
         if (wrong != 0 || asked == 0) {
             System.exit(1);
         }
@@ -75,6 +96,26 @@ final class Due {
         due("narrow() of " + text, reader.narrow(), true);
         due("bits() after narrow() of " + text, reader.bits(), bits);
         due("length() after narrow() of " + text, reader.length(), text.length());
+    }
+
+    /** A text that is no NUMERAL: neither kind finds one, and all stays as it was. */
+    static void none(String text) {
+        NearestReader reader = new NearestReader();
+        write(reader, "-7.5");
+        due("wide() of -7.5", reader.wide(), true);
+        due("keep(0)", reader.keep(0), true);
+        due("writing " + text, write(reader, text), true);
+        due("wide() of '" + text + "'", reader.wide(), false);
+        due("narrow() of '" + text + "'", reader.narrow(), false);
+        due("bits() after '" + text + "'", reader.bits(), 0xC01E000000000000L);
+        due("readings() after '" + text + "'", reader.readings(), 1);
+        due("length() after '" + text + "'", reader.length(), text.length());
+    }
+
+    /** A text that says this number of either kind. */
+    static void says(String text, double number) {
+        wide(text, Double.doubleToRawLongBits(number));
+        narrow(text, Float.floatToRawIntBits((float) number) & 0xFFFFFFFFL);
     }
 
     /** Both kinds against the exact answer. */
