@@ -155,7 +155,8 @@ public final class PromisesTest {
             reads(x, Integer.parseInt("12345678".substring(0, n) + "9"));
         }
         Due.sentence("3: stay alone: what is behind them is not read");
-        String[] cut = {"1e5", "0x1p1", "-5", ".5", "+.5", "NaN", "-Infinity", "0x1.8p12", "1.5", "0x1p1", "7f", "1e12", " 5"};
+        String[] cut = {"1e5", "0x1p1", "-5", ".5", "+.5", "NaN", "-Infinity", "0x1.8p12", "1.5", "0x1p1", "7f", "1e12",
+            " 5"};
         int[] kept = {2, 4, 1, 1, 2, 2, 8, 6, 2, 1, 1, 3, 1};
         double[] left = {-1, -1, -1, -1, -1, -1, -1, -1, 1, 0, 7, 10, -1};
         for (int i = 0; i < cut.length; i++) {
@@ -445,6 +446,11 @@ public final class PromisesTest {
         divided(most - 1, most, 0x3FF0000000000000L, 0x3F800000L);
         divided(most, most - 1, 0x3FF0000000000000L, 0x3F800000L);
         divided(most, 3, 0x43C5555555555555L, 0x5E2AAAABL);
+        Due.sentence("10: the size of a / b itself, though neither of a and b is a number of the kind");
+        divided(9223372036854775807L, 4611686018427387905L, 0x4000000000000000L, 0x40000000L);
+        divided(5069452754643211893L, 3662919915061528752L, 0x3FF624D50D403966L, 0x3FB126A8L);
+        divided(7168724689662091096L, 1470204903839522129L, 0x4013810723806C1CL, 0x409C0839L);
+        divided(8892195309662416754L, 1237307166336130184L, 0x401CBF36BCDAE143L, 0x40E5F9B6L);
         Due.sentence("10: the NEAREST of two that are as near");
         divided((1L << 53) + 1, 1, 0x4340000000000000L, 0x5A000000L);
         divided((1L << 53) + 3, 1, 0x4340000000000002L, 0x5A000000L);
@@ -627,6 +633,16 @@ public final class PromisesTest {
         x.compare(7, 7, false);
         x.readings();
         Due.due("readings() after the others", x.readings(), due);
+
+        Due.sentence("12: readings of this object alone");
+        NearestReader one = Due.holding("1");
+        NearestReader other = Due.holding("2");
+        Due.due("wide() of one", one.wide(), true);
+        Due.due("wide() of the other", other.wide(), true);
+        Due.due("narrow() of the other", other.narrow(), true);
+        Due.due("readings() of one", one.readings(), 1);
+        Due.due("readings() of the other", other.readings(), 2);
+        Due.due("readings() of the first", x.readings(), due);
     }
 
     private static NearestReader filled(int count) {

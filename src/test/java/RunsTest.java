@@ -10,9 +10,10 @@ public final class RunsTest {
     private static final String HEXADECIMAL = "0[xX]" + forms(HEX_DIGITS) + "[pP][+-]?" + DIGITS;
     private static final Pattern NUMERAL = Pattern.compile("[\\x01-\\x20]*(?<sign>[+-]?)(?<rest>NaN|Infinity|(?<literal>"
         + DECIMAL + "|" + HEXADECIMAL + ")[fFdD]?)[\\x01-\\x20]*");
-    private static final String[] PIECES = {"1", "9", "0", "12345678", "00000000", "99999999", ".", "e", "E-", "e+", "0x", "p",
-        "P-", "f", "D", "-", "+", "NaN", "Infinity", " ", "\t", "e-300", "e300", "p-1070", "p1000", "e-40", "abcdef",
-        "16777217", "e99999", "\u00ff"};
+    private static final String[] PIECES = {
+        "1", "9", "0", "12345678", "00000000", "99999999", ".", "e", "E-", "e+", "0x", "p", "P-", "f", "D", "-", "+", "NaN",
+        "Infinity", " ", "\t", "e-300", "e300", "p-1070", "p1000", "e-40", "abcdef", "16777217", "e99999", "\u00ff",
+    };
     private static final String[] WHOLE = {"1", "-2.5", "1e23", "NaN", "-Infinity", "0x1.8p1", " 7f ", "4.9e-324", ".5",
         "1e-46", "3.5e38", "0x1p-1075", "9007199254740993", "16777217", "-0", "1e999", "-1e-999", "0x1.000001p0"};
 

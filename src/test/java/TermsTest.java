@@ -345,7 +345,8 @@ public final class TermsTest {
         Due.says("40.25", 40.25);
         Due.says(".5", 0.5);
         Due.says(".25", 0.25);
-        for (String text : new String[] {".", "-.", "..", "4..", "..4", ".4.", "4..5", "4.5.", "4.5.6", "4,5", ".e1", "..e1"}) {
+        for (String text : new String[] {".", "-.", "..", "4..", "..4", ".4.", "4..5", "4.5.", "4.5.6", "4,5", ".e1",
+                "..e1"}) {
             Due.none(text);
         }
     }
@@ -404,8 +405,8 @@ public final class TermsTest {
         Due.says("0x3P-1", 1.5);
         Due.says("0x3p00", 3);
         for (String literal : new String[] {"0x3", "0x3.", "0x3.8", "0x.8", "0XF"}) {
-            for (String power : new String[] {"", "f", "d", "F", "D", "p", "P", "p+", "P-", "p++1", "p-+1", "pp1", "p1p1", "p1.",
-                    "p.1", "p1.0", "pA", "p1A", "pf", "p-d", "p0x1", "p 1", "+1", "-1"}) {
+            for (String power : new String[] {"", "f", "d", "F", "D", "p", "P", "p+", "P-", "p++1", "p-+1", "pp1", "p1p1",
+                    "p1.", "p.1", "p1.0", "pA", "p1A", "pf", "p-d", "p0x1", "p 1", "+1", "-1"}) {
                 Due.none(literal + power);
             }
         }
