@@ -11,10 +11,10 @@ public final class NearestReader {
     private int found;
 
     public NearestReader() {
-        text = new char[MOST_CHARACTERS];
-        numeral = new Numeral(text);
-        fraction = new Fraction();
-        decimal = new Decimal(text, fraction);
+        numeral = new Numeral();
+        decimal = new Decimal();
+        text = numeral.text;
+        fraction = decimal.fraction;
         filled = 0;
         result = 0;
         found = 0;
@@ -280,7 +280,7 @@ public final class NearestReader {
         }
     }
 
-    /** Finds in the text a NUMERAL and its parts. */
+    /** Holds the text's characters, and finds in them a NUMERAL and its parts. */
     private static final class Numeral {
         static final int NOT_A_NUMBER = 1;
         static final int INFINITY = 2;
@@ -290,7 +290,7 @@ public final class NearestReader {
         // Far beyond what the text's length can bring back, and its tenfold is an int.
         private static final int MOST_POWER = 1000000;
 
-        private final char[] text;
+        final char[] text;
         private int at;
         private int end;
 
@@ -301,8 +301,8 @@ public final class NearestReader {
         int to;
         int power;
 
-        Numeral(char[] text) {
-            this.text = text;
+        Numeral() {
+            text = new char[MOST_CHARACTERS];
         }
 
         boolean findIn(int filled) {
@@ -419,20 +419,18 @@ public final class NearestReader {
     private static final class Decimal {
         private static final int FULL_GROUP = 1000000000;
 
-        private final char[] text;
-        private final Fraction fraction;
+        final Fraction fraction;
         private int group;
         private int groupScale;
         private int kept;
         private int place;
 
-        Decimal(char[] text, Fraction fraction) {
-            this.text = text;
-            this.fraction = fraction;
+        Decimal() {
+            fraction = new Fraction();
         }
 
         long nearest(Numeral numeral, Kind kind) {
-            gather(numeral.from, numeral.to, kind.mostDigits);
+            gather(numeral, kind.mostDigits);
             int height = place + numeral.power;
             if (kept == 0 || height < kind.lowestPlace) {
                 return 0;
@@ -455,7 +453,8 @@ public final class NearestReader {
          * Puts the digits from the first that is not 0 into the fraction's top: kept of them, d1 d2 .., of a
          * number 0.d1d2.. * 10^place.
          */
-        private void gather(int from, int to, int mostDigits) {
+        private void gather(Numeral numeral, int mostDigits) {
+            char[] text = numeral.text;
             boolean behindPoint = false;
             boolean more = false;
             fraction.top.set(0);
@@ -463,7 +462,7 @@ public final class NearestReader {
             groupScale = 1;
             kept = 0;
             place = 0;
-            for (int i = from; i < to && i < text.length; i++) {
+            for (int i = numeral.from; i < numeral.to && i < text.length; i++) {
                 char c = text[i];
                 if (c == '.') {
                     behindPoint = true;
