@@ -36,7 +36,17 @@ public final class FaceTest {
         for (Class<?> inside : NearestReader.class.getDeclaredClasses()) {
             Due.due("static " + inside, Modifier.isStatic(inside.getModifiers()), true);
             Due.due("not public " + inside, Modifier.isPublic(inside.getModifiers()), false);
+            if (!inside.isEnum()) {
+                takesNothing(inside);
+            }
         }
         Due.end();
+    }
+
+    /** LANGUAGE.md, rule 12: where no constructor takes anything, none hands out a part of what it makes. */
+    private static void takesNothing(Class<?> inside) {
+        for (Constructor<?> constructor : inside.getDeclaredConstructors()) {
+            Due.due("parameters of " + constructor, constructor.getParameterCount(), 0);
+        }
     }
 }
